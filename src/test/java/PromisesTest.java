@@ -405,6 +405,14 @@ public final class PromisesTest {
         due.is("nextDay()", y.nextDay(), 0);
         due.is("knownSince(0, 0), the history forgets after 10 days", y.knownSince(0, 0), -1);
         due.is("isStored(0, 0), but the store has it", y.isStored(0, 0), 1);
+
+        NewsFlood full = withThirtyArticles();
+        due.is("setExpiry(2, 1)", full.setExpiry(2, 1), 5);
+        due.is("nextDay(), of thirty articles seven in group 2", full.nextDay(), 7);
+        due.is("setHistoryLimit(1)", full.setHistoryLimit(1), 10);
+        due.is("nextDay()", full.nextDay(), 0);
+        due.is("knownSince(5, 29)", full.knownSince(5, 29), -1);
+        due.is("isStored(5, 29)", full.isStored(5, 29), 1);
     }
 
     private static void isStored() {
@@ -502,6 +510,9 @@ public final class PromisesTest {
         for (int[] w : wrong) {
             due.is("storedInGroup(" + w[0] + ", " + w[1] + ")", x.storedInGroup(w[0], w[1]), -2);
         }
+        NewsFlood full = withThirtyArticles();
+        due.is("storedInGroup(5, 1), articles 5, 17 and 29", full.storedInGroup(5, 1), 3);
+        due.is("storedInGroup(5, 0)", full.storedInGroup(5, 0), 0);
     }
 
     private static void distance() {
@@ -658,7 +669,7 @@ public final class PromisesTest {
     private static void change(NewsFlood x, int method) {
         switch (method) {
             case 0 -> x.addLink(2, 5, 1);
-            case 1 -> x.removeLink(2);
+            case 1 -> x.removeLink(0);
             case 2 -> x.setKind(2, 1);
             case 3 -> x.setGroups(3, 0);
             case 4 -> x.setExpiry(0, 7);
