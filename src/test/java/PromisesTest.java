@@ -2,9 +2,6 @@
 public final class PromisesTest {
     private static final int MIN = Integer.MIN_VALUE;
     private static final int MAX = Integer.MAX_VALUE;
-    /** Twelve pairs of hosts; the pairs 3-4, 3-5 and 4-5 are not among them. */
-    private static final int[][] PAIRS = {
-        {0, 1}, {0, 2}, {0, 3}, {0, 4}, {0, 5}, {1, 2}, {1, 3}, {1, 4}, {1, 5}, {2, 3}, {2, 4}, {2, 5}};
     private static final Due due = new Due();
 
     public static void main(String[] args) {
@@ -35,31 +32,6 @@ public final class PromisesTest {
         errorCount();
         digest();
         due.end();
-    }
-
-    /** A line of hosts 0 - 1 - .. - last, all push. */
-    private static NewsFlood line(int last) {
-        NewsFlood x = new NewsFlood();
-        for (int host = 0; host < last; host++) {
-            x.addLink(host, host + 1, 0);
-        }
-        return x;
-    }
-
-    private static NewsFlood withTwelveLinks() {
-        NewsFlood x = new NewsFlood();
-        for (int i = 0; i < PAIRS.length; i++) {
-            due.is("addLink number " + i, x.addLink(PAIRS[i][0], PAIRS[i][1], i % 2), i);
-        }
-        return x;
-    }
-
-    private static NewsFlood withThirtyArticles() {
-        NewsFlood x = new NewsFlood();
-        for (int i = 0; i < 30; i++) {
-            due.is("post number " + i, x.post(i % 6, i % 4, i % 10), i);
-        }
-        return x;
     }
 
     private static long hash(long... values) {
@@ -98,7 +70,7 @@ public final class PromisesTest {
 
     private static void addLink() {
         due.part("promise 2");
-        NewsFlood x = withTwelveLinks();
+        NewsFlood x = Nets.twelveLinks();
         due.is("setKind(0, 0)", x.setKind(0, 0), 0);
         due.is("setKind(11, 0)", x.setKind(11, 0), 1);
         due.is("addLink(3, 4, 0)", x.addLink(3, 4, 0), -4);
@@ -133,7 +105,7 @@ public final class PromisesTest {
 
     private static void removeLink() {
         due.part("promise 3");
-        NewsFlood x = line(3);
+        NewsFlood x = Nets.line(3);
         x.setKind(2, 1);
         due.is("removeLink(3)", x.removeLink(3), -2);
         due.is("removeLink(-1)", x.removeLink(-1), -2);
@@ -151,7 +123,7 @@ public final class PromisesTest {
         due.is("undo()", x.undo(), 3);
         due.is("removeLink(0) after undo", x.removeLink(0), 0);
         due.is("addLink(4, 5, 0) after all are gone", x.addLink(4, 5, 0), 0);
-        NewsFlood full = withTwelveLinks();
+        NewsFlood full = Nets.twelveLinks();
         due.is("removeLink(12)", full.removeLink(12), -2);
         due.is("removeLink(11)", full.removeLink(11), 11);
         due.is("distance(2, 5)", full.distance(2, 5), 2);
@@ -159,7 +131,7 @@ public final class PromisesTest {
 
     private static void setKind() {
         due.part("promise 4");
-        NewsFlood x = line(1);
+        NewsFlood x = Nets.line(1);
         int[][] wrong = {{1, 0}, {-1, 0}, {0, 2}, {0, -1}, {MIN, 0}, {MAX, 0}, {0, MIN}, {0, MAX}};
         for (int[] w : wrong) {
             due.is("setKind(" + w[0] + ", " + w[1] + ")", x.setKind(w[0], w[1]), -2);
@@ -172,7 +144,7 @@ public final class PromisesTest {
         x.post(0, 0, 0);
         x.round();
         due.is("total(1), the link asks", x.total(1), 1);
-        NewsFlood y = line(1);
+        NewsFlood y = Nets.line(1);
         y.post(0, 0, 0);
         y.setKind(0, 1);
         y.round();
@@ -188,7 +160,7 @@ public final class PromisesTest {
 
     private static void setGroups() {
         due.part("promise 5");
-        NewsFlood x = line(2);
+        NewsFlood x = Nets.line(2);
         int[][] wrong = {{6, 0}, {-1, 0}, {0, 16}, {0, -1}, {MIN, 0}, {MAX, 0}, {0, MIN}, {0, MAX}};
         for (int[] w : wrong) {
             due.is("setGroups(" + w[0] + ", " + w[1] + ")", x.setGroups(w[0], w[1]), -2);
@@ -263,7 +235,7 @@ public final class PromisesTest {
 
     private static void post() {
         due.part("promise 8");
-        NewsFlood x = line(2);
+        NewsFlood x = Nets.line(2);
         int[][] wrong = {{6, 0, 0}, {-1, 0, 0}, {0, 4, 0}, {0, -1, 0}, {0, 0, 10}, {0, 0, -1},
             {MIN, 0, 0}, {MAX, 0, 0}, {0, MIN, 0}, {0, MAX, 0}, {0, 0, MIN}, {0, 0, MAX}};
         for (int[] w : wrong) {
@@ -285,7 +257,7 @@ public final class PromisesTest {
         due.is("post(5, 1, 1), the number is free again", x.post(5, 1, 1), 1);
         due.is("waiting(), a host without neighbours", x.waiting(), 2);
 
-        NewsFlood full = withThirtyArticles();
+        NewsFlood full = Nets.thirtyArticles();
         due.is("post(0, 0, 0)", full.post(0, 0, 0), -4);
         due.is("post(0, 0, 10), OUT_OF_RANGE before FULL", full.post(0, 0, 10), -2);
         due.is("holders(30)", full.holders(30), -2);
@@ -296,7 +268,7 @@ public final class PromisesTest {
 
     private static void postAction() {
         due.part("promise 9");
-        NewsFlood x = line(1);
+        NewsFlood x = Nets.line(1);
         due.is("postAction(0, 0, 1, 0), no article yet", x.postAction(0, 0, 1, 0), -2);
         x.post(0, 2, 7);
         int[][] wrong = {{6, 0, 1, 0}, {-1, 0, 1, 0}, {0, 10, 1, 0}, {0, -1, 1, 0}, {0, 0, 0, 0}, {0, 0, 3, 0},
@@ -323,7 +295,7 @@ public final class PromisesTest {
         due.is("total(5)", x.total(5), 1);
         due.is("waiting(), actions spread too", x.waiting(), 3);
 
-        NewsFlood full = withThirtyArticles();
+        NewsFlood full = Nets.thirtyArticles();
         due.is("postAction(0, 0, 1, 29)", full.postAction(0, 0, 1, 29), -4);
         due.is("postAction(0, 0, 1, 30), OUT_OF_RANGE before FULL", full.postAction(0, 0, 1, 30), -2);
         due.is("errorCount(-4)", full.errorCount(-4), 1);
@@ -331,7 +303,7 @@ public final class PromisesTest {
 
     private static void round() {
         due.part("promise 10");
-        NewsFlood x = line(3);
+        NewsFlood x = Nets.line(3);
         due.is("round(), an empty queue", x.round(), 0);
         due.is("undo(), also that was saved", x.undo(), 3);
         x.post(1, 0, 0);
@@ -344,7 +316,7 @@ public final class PromisesTest {
         due.is("undo()", x.undo(), 2);
         due.is("holders(0) after two undos", x.holders(0), 7);
         due.is("waiting() after two undos", x.waiting(), 1);
-        NewsFlood y = line(2);
+        NewsFlood y = Nets.line(2);
         y.setGroups(1, 14);
         y.post(0, 0, 0);
         due.is("round(), no group, so no step (6)", y.round(), 0);
@@ -353,7 +325,7 @@ public final class PromisesTest {
 
     private static void settle() {
         due.part("promise 11");
-        NewsFlood x = line(5);
+        NewsFlood x = Nets.line(5);
         due.is("settle(), an empty queue", x.settle(), 0);
         due.is("undo(), also that was saved", x.undo(), 3);
         x.post(0, 0, 0);
@@ -366,7 +338,7 @@ public final class PromisesTest {
         x.removeLink(0);
         due.is("settle(), a round in which all is dropped", x.settle(), 1);
         due.is("holders(0)", x.holders(0), 1);
-        NewsFlood ring = line(5);
+        NewsFlood ring = Nets.line(5);
         ring.addLink(5, 0, 0);
         ring.post(0, 0, 0);
         due.is("settle(), a ring", ring.settle(), 4);
@@ -376,7 +348,7 @@ public final class PromisesTest {
 
     private static void nextDay() {
         due.part("promise 12");
-        NewsFlood x = line(1);
+        NewsFlood x = Nets.line(1);
         x.post(0, 0, 0);
         x.settle();
         x.post(0, 1, 0);
@@ -406,7 +378,7 @@ public final class PromisesTest {
         due.is("knownSince(0, 0), the history forgets after 10 days", y.knownSince(0, 0), -1);
         due.is("isStored(0, 0), but the store has it", y.isStored(0, 0), 1);
 
-        NewsFlood full = withThirtyArticles();
+        NewsFlood full = Nets.thirtyArticles();
         due.is("setExpiry(2, 1)", full.setExpiry(2, 1), 5);
         due.is("nextDay(), of thirty articles seven in group 2", full.nextDay(), 7);
         due.is("setHistoryLimit(1)", full.setHistoryLimit(1), 10);
@@ -417,7 +389,7 @@ public final class PromisesTest {
 
     private static void isStored() {
         due.part("promise 13");
-        NewsFlood x = line(1);
+        NewsFlood x = Nets.line(1);
         due.is("isStored(0, 0)", x.isStored(0, 0), -2);
         x.post(1, 0, 0);
         due.is("isStored(0, 0)", x.isStored(0, 0), 0);
@@ -427,7 +399,7 @@ public final class PromisesTest {
             due.is("isStored(" + w[0] + ", " + w[1] + ")", x.isStored(w[0], w[1]), -2);
         }
         due.is("errorCount(-2)", x.errorCount(-2), 1 + wrong.length);
-        NewsFlood full = withThirtyArticles();
+        NewsFlood full = Nets.thirtyArticles();
         due.is("isStored(5, 29)", full.isStored(5, 29), 1);
         due.is("isStored(5, 30)", full.isStored(5, 30), -2);
         due.is("isStored(5, 61), no wrapping of bits", full.isStored(5, 61), -2);
@@ -435,7 +407,7 @@ public final class PromisesTest {
 
     private static void knownSince() {
         due.part("promise 14");
-        NewsFlood x = line(1);
+        NewsFlood x = Nets.line(1);
         due.is("knownSince(0, 0)", x.knownSince(0, 0), -2);
         x.nextDay();
         x.post(1, 0, 0);
@@ -477,7 +449,7 @@ public final class PromisesTest {
 
     private static void holders() {
         due.part("promise 16");
-        NewsFlood x = line(5);
+        NewsFlood x = Nets.line(5);
         due.is("holders(0)", x.holders(0), -2);
         x.post(5, 0, 0);
         due.is("holders(0)", x.holders(0), 32);
@@ -510,14 +482,14 @@ public final class PromisesTest {
         for (int[] w : wrong) {
             due.is("storedInGroup(" + w[0] + ", " + w[1] + ")", x.storedInGroup(w[0], w[1]), -2);
         }
-        NewsFlood full = withThirtyArticles();
+        NewsFlood full = Nets.thirtyArticles();
         due.is("storedInGroup(5, 1), articles 5, 17 and 29", full.storedInGroup(5, 1), 3);
         due.is("storedInGroup(5, 0)", full.storedInGroup(5, 0), 0);
     }
 
     private static void distance() {
         due.part("promise 18");
-        NewsFlood x = line(5);
+        NewsFlood x = Nets.line(5);
         for (int a = 0; a < 6; a++) {
             for (int b = 0; b < 6; b++) {
                 due.is("distance(" + a + ", " + b + ")", x.distance(a, b), Math.abs(a - b));
@@ -541,7 +513,7 @@ public final class PromisesTest {
 
     private static void waiting() {
         due.part("promise 19");
-        NewsFlood x = withTwelveLinks();
+        NewsFlood x = Nets.twelveLinks();
         due.is("waiting()", x.waiting(), 0);
         x.post(0, 0, 0);
         due.is("waiting()", x.waiting(), 5);
@@ -558,7 +530,7 @@ public final class PromisesTest {
 
     private static void total() {
         due.part("promise 20");
-        NewsFlood x = line(1);
+        NewsFlood x = Nets.line(1);
         int[] wrong = {6, -1, MIN, MAX};
         for (int w : wrong) {
             due.is("total(" + w + ")", x.total(w), -2);
@@ -650,7 +622,7 @@ public final class PromisesTest {
     /** The digest before a call and after its undo differ in nothing, for every undoable method. */
     private static void undoTakesBackEveryUndoableCall() {
         for (int method = 0; method < 11; method++) {
-            NewsFlood x = line(3);
+            NewsFlood x = Nets.line(3);
             x.post(1, 0, 3);
             x.setExpiry(0, 1);
             x.round();
@@ -684,7 +656,7 @@ public final class PromisesTest {
 
     private static void errorCount() {
         due.part("promise 23");
-        NewsFlood x = line(1);
+        NewsFlood x = Nets.line(1);
         due.is("errorCount(-6)", x.errorCount(-6), -2);
         due.is("errorCount(-1)", x.errorCount(-1), -2);
         due.is("errorCount(0)", x.errorCount(0), -2);

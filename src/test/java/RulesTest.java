@@ -24,17 +24,9 @@ public final class RulesTest {
         due.end();
     }
 
-    private static NewsFlood links(int... ends) {
-        NewsFlood x = new NewsFlood();
-        for (int i = 0; i + 1 < ends.length; i += 2) {
-            x.addLink(ends[i], ends[i + 1], 0);
-        }
-        return x;
-    }
-
     private static void duplicate() {
         due.part("step (1)");
-        NewsFlood x = links(0, 1, 0, 2, 1, 2);
+        NewsFlood x = Nets.links(0, 1, 0, 2, 1, 2);
         x.post(0, 0, 0);
         due.is("round()", x.round(), 2);
         due.is("total(2)", x.total(2), 0);
@@ -42,7 +34,7 @@ public final class RulesTest {
         due.is("total(2)", x.total(2), 2);
         due.is("total(0)", x.total(0), 4);
         due.is("waiting(), a duplicate is not sent on", x.waiting(), 0);
-        NewsFlood y = links(0, 1, 0, 2, 1, 2);
+        NewsFlood y = Nets.links(0, 1, 0, 2, 1, 2);
         y.setHistoryLimit(1);
         y.post(0, 0, 0);
         y.round();
@@ -56,7 +48,7 @@ public final class RulesTest {
 
     private static void tooOld() {
         due.part("step (2)");
-        NewsFlood x = links(0, 1);
+        NewsFlood x = Nets.links(0, 1);
         x.setHistoryLimit(3);
         x.post(0, 0, 0);
         x.nextDay();
@@ -73,7 +65,7 @@ public final class RulesTest {
 
     private static void pendingCancelAtArrival() {
         due.part("step (4)");
-        NewsFlood x = links(0, 1, 1, 2);
+        NewsFlood x = Nets.links(0, 1, 1, 2);
         x.post(0, 0, 4);
         x.setGroups(1, 1);
         x.postAction(1, 4, 2, 0);
@@ -87,7 +79,7 @@ public final class RulesTest {
         due.is("total(4)", x.total(4), 2);
         due.is("waiting(), the cancelled one is not sent on", x.waiting(), 0);
 
-        NewsFlood y = links(0, 1);
+        NewsFlood y = Nets.links(0, 1);
         y.post(0, 0, 4);
         y.postAction(1, 4, 1, 0);
         y.setGroups(1, 0);
@@ -95,7 +87,7 @@ public final class RulesTest {
         due.is("pendingCancels(1), step (4) comes before step (5)", y.pendingCancels(1), 0);
         due.is("total(4)", y.total(4), 2);
 
-        NewsFlood z = links(0, 1);
+        NewsFlood z = Nets.links(0, 1);
         z.post(0, 0, 4);
         z.postAction(1, 4, 1, 0);
         z.setHistoryLimit(1);
@@ -108,7 +100,7 @@ public final class RulesTest {
 
     private static void pendingCancelOfAnotherAuthor() {
         due.part("step (4), another author");
-        NewsFlood x = links(0, 1);
+        NewsFlood x = Nets.links(0, 1);
         x.post(0, 0, 4);
         x.postAction(1, 5, 1, 0);
         x.settle();
@@ -117,7 +109,7 @@ public final class RulesTest {
         due.is("total(4)", x.total(4), 0);
         due.is("total(5), forged at host 0 alone", x.total(5), 1);
 
-        NewsFlood y = links(0, 1);
+        NewsFlood y = Nets.links(0, 1);
         y.post(0, 0, 4);
         y.postAction(1, 5, 1, 0);
         y.postAction(1, 4, 1, 0);
@@ -126,7 +118,7 @@ public final class RulesTest {
         due.is("pendingCancels(1), only the author's own is used up", y.pendingCancels(1), 2);
         due.is("holders(0)", y.holders(0), 0);
 
-        NewsFlood z = links(0, 1);
+        NewsFlood z = Nets.links(0, 1);
         z.post(2, 0, 4);
         z.post(0, 0, 4);
         z.postAction(1, 4, 1, 0);
@@ -138,7 +130,7 @@ public final class RulesTest {
     private static void groupNotCarried() {
         due.part("step (5)");
         for (int group = 0; group < 4; group++) {
-            NewsFlood x = links(0, 1, 1, 2);
+            NewsFlood x = Nets.links(0, 1, 1, 2);
             x.setGroups(1, 15 - (1 << group));
             x.post(0, group, 0);
             x.post(0, (group + 1) % 4, 0);
@@ -186,7 +178,7 @@ public final class RulesTest {
 
     private static void actionNotCarried() {
         due.part("an action in a group that is not carried");
-        NewsFlood x = links(0, 1);
+        NewsFlood x = Nets.links(0, 1);
         x.post(0, 0, 4);
         x.settle();
         x.setGroups(1, 14);
@@ -199,7 +191,7 @@ public final class RulesTest {
     /** A longer limit lets an article come again that a shorter one made the host forget. */
     private static void arrivalAfterForgetting() {
         due.part("an article that comes again");
-        NewsFlood x = links(0, 1, 0, 2, 1, 2, 2, 3);
+        NewsFlood x = Nets.links(0, 1, 0, 2, 1, 2, 2, 3);
         x.post(0, 0, 0);
         due.is("round()", x.round(), 2);
         due.is("waiting(), 1 -> 2, 2 -> 1, 2 -> 3", x.waiting(), 3);
@@ -219,11 +211,11 @@ public final class RulesTest {
 
     private static void path() {
         due.part("path");
-        NewsFlood x = links(0, 1);
+        NewsFlood x = Nets.links(0, 1);
         x.post(0, 0, 0);
         x.round();
         due.is("waiting(), no echo to the sender", x.waiting(), 0);
-        NewsFlood y = links(0, 1, 1, 2, 2, 3, 3, 0);
+        NewsFlood y = Nets.links(0, 1, 1, 2, 2, 3, 3, 0);
         y.post(0, 0, 0);
         y.round();
         due.is("waiting(), 1 -> 2 and 3 -> 2", y.waiting(), 2);
@@ -233,7 +225,7 @@ public final class RulesTest {
         y.round();
         due.is("total(2)", y.total(2), 2);
         due.is("waiting()", y.waiting(), 0);
-        NewsFlood z = links(0, 1, 1, 2);
+        NewsFlood z = Nets.links(0, 1, 1, 2);
         z.post(0, 0, 0);
         z.round();
         z.addLink(2, 0, 0);
@@ -244,7 +236,7 @@ public final class RulesTest {
     private static void orderByArticle() {
         due.part("order by article");
         // The target comes from the higher host, its cancel from the lower one, in the same round.
-        NewsFlood x = links(0, 1, 1, 2);
+        NewsFlood x = Nets.links(0, 1, 1, 2);
         x.post(2, 0, 4);
         x.postAction(0, 4, 1, 0);
         due.is("pendingCancels(0)", x.pendingCancels(0), 1);
@@ -259,7 +251,7 @@ public final class RulesTest {
         due.part("order by sender");
         // Host 3 gets the article from 1 and from 2; the order decides what is asked and what comes twice.
         for (int kind = 0; kind < 2; kind++) {
-            NewsFlood x = links(0, 2, 0, 1);
+            NewsFlood x = Nets.links(0, 2, 0, 1);
             x.addLink(3, 2, 1 - kind);
             x.addLink(1, 3, kind);
             x.post(0, 0, 0);
@@ -278,7 +270,7 @@ public final class RulesTest {
 
     private static void linkAtTheTimeOfTheTransfer() {
         due.part("links change while transfers wait");
-        NewsFlood x = links(0, 1);
+        NewsFlood x = Nets.links(0, 1);
         x.post(0, 0, 0);
         x.removeLink(0);
         due.is("round()", x.round(), 0);
@@ -286,7 +278,7 @@ public final class RulesTest {
         due.is("total(1), dropped", x.total(1), 0);
         due.is("waiting()", x.waiting(), 0);
         due.is("knownSince(1, 0)", x.knownSince(1, 0), -1);
-        NewsFlood y = links(0, 1);
+        NewsFlood y = Nets.links(0, 1);
         y.post(0, 0, 0);
         y.removeLink(0);
         y.addLink(1, 0, 1);
@@ -324,7 +316,7 @@ public final class RulesTest {
 
     private static void cancelsStayOverDays() {
         due.part("pending cancels stay");
-        NewsFlood x = links(0, 1);
+        NewsFlood x = Nets.links(0, 1);
         x.post(0, 0, 4);
         x.postAction(1, 4, 1, 0);
         x.setExpiry(0, 1);
@@ -340,7 +332,7 @@ public final class RulesTest {
 
     private static void expiryCountsFromPosting() {
         due.part("store by day of posting, history by day of arrival");
-        NewsFlood x = links(0, 1);
+        NewsFlood x = Nets.links(0, 1);
         x.setExpiry(0, 3);
         x.setHistoryLimit(3);
         x.post(0, 0, 0);
@@ -355,7 +347,7 @@ public final class RulesTest {
         due.is("knownSince(1, 0)", x.knownSince(1, 0), 2);
         x.nextDay();
         due.is("knownSince(1, 0)", x.knownSince(1, 0), -1);
-        NewsFlood y = links(0, 1);
+        NewsFlood y = Nets.links(0, 1);
         y.setExpiry(0, 1);
         y.post(0, 0, 0);
         y.nextDay();
@@ -366,7 +358,7 @@ public final class RulesTest {
 
     private static void queueOverDays() {
         due.part("the queue stays over days");
-        NewsFlood x = links(0, 1, 1, 2);
+        NewsFlood x = Nets.links(0, 1, 1, 2);
         x.post(0, 0, 0);
         x.postAction(0, 0, 1, 0);
         x.nextDay();
@@ -379,7 +371,7 @@ public final class RulesTest {
     /** All thirty articles posted at a host with five neighbours: as many transfers as the queue can get. */
     private static void mostTransfers() {
         due.part("the longest queue");
-        NewsFlood x = links(0, 1, 0, 2, 0, 3, 0, 4, 0, 5, 1, 2, 1, 3, 1, 4, 1, 5, 2, 3, 2, 4, 2, 5);
+        NewsFlood x = Nets.links(0, 1, 0, 2, 0, 3, 0, 4, 0, 5, 1, 2, 1, 3, 1, 4, 1, 5, 2, 3, 2, 4, 2, 5);
         for (int i = 0; i < 30; i++) {
             x.post(0, i % 4, i % 10);
         }
