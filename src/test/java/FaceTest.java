@@ -6,6 +6,7 @@ import java.io.IOException;
 import java.nio.file.Files;
 import java.nio.file.Path;
 import java.util.Arrays;
+import java.util.Set;
 import java.util.TreeSet;
 import java.util.regex.Matcher;
 import java.util.regex.Pattern;
@@ -83,10 +84,25 @@ public final class FaceTest {
     private static void nestedClasses() {
         Class<?>[] nested = NewsFlood.class.getDeclaredClasses();
         due.isTrue("at most twelve classes", nested.length < 12);
+        sizes(NewsFlood.class);
         for (Class<?> one : nested) {
             int modifiers = one.getModifiers();
             due.isTrue(one + " is static", Modifier.isStatic(modifiers));
             due.isTrue(one + " is hidden", !Modifier.isPublic(modifiers) && !Modifier.isProtected(modifiers));
+            sizes(one);
+        }
+    }
+
+    private static void sizes(Class<?> one) {
+        int fields = 0;
+        for (Field field : one.getDeclaredFields()) {
+            if (!Modifier.isStatic(field.getModifiers())) {
+                fields++;
+            }
+        }
+        due.isTrue(one + " has at most twenty fields", fields <= 20);
+        for (Method method : one.getDeclaredMethods()) {
+            due.isTrue(method + " takes at most seven parameters", method.getParameterCount() <= 7);
         }
     }
 
@@ -101,6 +117,38 @@ public final class FaceTest {
         Matcher imports = Pattern.compile("import ([^;]*);").matcher(code);
         while (imports.find()) {
             due.isTrue("import of " + imports.group(1), imports.group(1).equals("java.util.Arrays"));
+        }
+        library(code);
+        methodBodies(source.split("\n"));
+    }
+
+    private static void library(String code) {
+        Set<String> allowed = Set.of("Arrays.fill", "System.arraycopy", "Integer.bitCount");
+        String owners = "Arrays|System|Integer|Long|Math|List|String|Thread|Runtime|Objects";
+        Matcher uses = Pattern.compile("\\b(" + owners + ")\\.(\\w+)").matcher(code);
+        while (uses.find()) {
+            due.isTrue("the library's " + uses.group(), allowed.contains(uses.group()));
+        }
+    }
+
+    /** A method's head ends with a brace; its end is the next line with a brace alone at the head's indent. */
+    private static void methodBodies(String[] lines) {
+        Pattern head = Pattern.compile("( {4}| {8})[^ ].*\\w\\(.*\\) \\{");
+        Pattern constructor = Pattern.compile(" +(public |private )?[A-Z]\\w*\\(\\) \\{");
+        Pattern control = Pattern.compile(" +(if|for|while|switch|\\}).*");
+        for (int i = 0; i < lines.length; i++) {
+            if (!head.matcher(lines[i]).matches() || control.matcher(lines[i]).matches()) {
+                continue;
+            }
+            String indent = lines[i].replaceAll("[^ ].*", "");
+            int end = i + 1;
+            boolean makes = false;
+            while (end < lines.length && !lines[end].equals(indent + "}")) {
+                makes |= Pattern.compile("\\bnew\\b").matcher(lines[end].replaceAll("//.*", "")).find();
+                end++;
+            }
+            due.isTrue("at most sixty lines: " + lines[i], end - i <= 60);
+            due.isTrue("makes no object: " + lines[i], !makes || constructor.matcher(lines[i]).matches());
         }
     }
 }
